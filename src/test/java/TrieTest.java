@@ -73,6 +73,10 @@ public final class TrieTest {
         FuzzyFens capped = Check.knowing("j", "x");
         checkReached(capped, "abcdefghij", 1, 3, 3, 3);
         checkRows(capped, "abcdefghij", 1, 2, 2, 2);
+        // The rows of c and x are 1122 and 1123: the same for k = 1, as 3 is capped at 2 there, and not for k = 2.
+        checkRows(Check.knowing("c", "x"), "abc", 1, 2, 3, 3);
+        // The rows of b and x are 111 and 112: the last number alone tells them apart.
+        checkRows(Check.knowing("b", "x"), "ab", 1, 3, 3, 3);
     }
 
     private static void theFullTrie() {
