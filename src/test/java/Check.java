@@ -13,8 +13,17 @@ final class Check {
     static final String[] LONGEST = {"aaaaaaaaaa", "zzzzzzzzzz", "abcdefghij"};
 
     private static int wrong = 0;
+    private static int compared = 0;
+    private static String sentence = "";
 
     private Check() {
+    }
+
+    /** Begins the test of a sentence of the document; what is wrong up to the next one is told with it. */
+    static void sentence(String where, String words) {
+        endSentence();
+        sentence = where + ", \"" + words + "\": ";
+        compared = 0;
     }
 
     static long word(String letters) {
@@ -45,9 +54,16 @@ final class Check {
     }
 
     static void due(String call, long got, long want) {
+        compared++;
         if (got != want) {
-            wrong++;
-            System.out.println(call + " answered " + got + ", due is " + want);
+            tell(call + " answered " + got + ", due is " + want);
+        }
+    }
+
+    static void due(String call, String got, String want) {
+        compared++;
+        if (!got.equals(want)) {
+            tell(call + " answered\n    " + got + "\n  due is\n    " + want);
         }
     }
 
@@ -59,8 +75,7 @@ final class Check {
         try {
             due(call, run.getAsLong(), want);
         } catch (RuntimeException e) {
-            wrong++;
-            System.out.println(call + " threw " + e + ", due is " + want);
+            tell(call + " threw " + e + ", due is " + want);
         }
     }
 
@@ -77,12 +92,14 @@ final class Check {
     }
 
     static void finish() {
+        endSentence();
         System.out.println(wrong == 0 ? "all answers are as due" : wrong + " answers are not as due");
         System.exit(wrong == 0 ? 0 : 1);
     }
 
-    private static void throwing(String call, Class<? extends RuntimeException> want, Runnable run) {
+    static void throwing(String call, Class<? extends RuntimeException> want, Runnable run) {
         String got = "nothing";
+        compared++;
         try {
             run.run();
         } catch (RuntimeException e) {
@@ -92,7 +109,18 @@ final class Check {
             }
             got = e.toString();
         }
+        tell(call + " threw " + got + ", due is " + want.getName());
+    }
+
+    /** A sentence that nothing was compared for has no test. */
+    private static void endSentence() {
+        if (!sentence.isEmpty() && compared == 0) {
+            tell("nothing is tested");
+        }
+    }
+
+    private static void tell(String fault) {
         wrong++;
-        System.out.println(call + " threw " + got + ", due is " + want.getName());
+        System.out.println(sentence + fault);
     }
 }

@@ -11,7 +11,7 @@ public final class DistancesTest {
         exchanges(fens);
         wrongInputs(fens);
         neighbours(fens);
-        eachPairOfLetters(fens);
+        eachPairOfLetters();
         Check.finish();
     }
 
@@ -117,8 +117,9 @@ public final class DistancesTest {
         }
     }
 
-    private static void eachPairOfLetters(FuzzyFens fens) {
+    private static void eachPairOfLetters() {
         for (char one = 'a'; one <= 'z'; one++) {
+            FuzzyFens fens = new FuzzyFens();
             for (char other = 'a'; other <= 'z'; other++) {
                 boolean due = touches(one, other) || touches(other, one);
                 Check.due("areNeighbours(" + one + ", " + other + ")", fens.areNeighbours(number(one), number(other)), due);

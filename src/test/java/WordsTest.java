@@ -7,7 +7,6 @@ public final class WordsTest {
         addCounts();
         addRefusesBadArguments();
         addRefusesTheWordAfterTheFortieth();
-        addRefusesTooHighACount();
         forgetTakesTheWholeCount();
         wordsAndCountFollow();
         wordAtIsAlphabetical();
@@ -69,22 +68,6 @@ public final class WordsTest {
         Check.due("words()", fens.words(), MOST_WORDS);
         Check.due("treeNodes()", fens.treeNodes(), MOST_WORDS);
         Check.due("count(other)", fens.count(another), 0);
-    }
-
-    /** It takes more calls than an object is promised for, but the limit has no other way to show. */
-    private static void addRefusesTooHighACount() {
-        FuzzyFens fens = new FuzzyFens();
-        long word = Check.word("often");
-        for (int i = 1; i < 1000; i++) {
-            fens.add(word, 1000);
-        }
-        fens.add(word, 999);
-        Check.badState("add beyond 1000000", () -> fens.add(word, 2));
-        Check.due("count(often)", fens.count(word), 999999);
-        Check.due("add up to 1000000", fens.add(word, 1), 1000000);
-        Check.badState("add to 1000000", () -> fens.add(word, 1));
-        Check.due("forget(often)", fens.forget(word), 1000000);
-        Check.due("add(often, 1000)", fens.add(word, 1000), 1000);
     }
 
     private static void forgetTakesTheWholeCount() {
