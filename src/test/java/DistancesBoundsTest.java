@@ -40,6 +40,7 @@ public final class DistancesBoundsTest {
         priceFromTheTypedWordToTheKnownOne();
         priceRefusesNoWords();
         theFirstLetterAndTheLast();
+        theFirstOtherLetterAndTheLast();
         areNeighboursRefusesOtherLetters();
         Check.finish();
     }
@@ -335,11 +336,18 @@ public final class DistancesBoundsTest {
         Check.sentence("Promise 9", "letter: 1 to 26");
         FuzzyFens fens = new FuzzyFens();
         Check.due("areNeighbours(1, 26)", fens.areNeighbours(1, 26), true);
-        Check.due("areNeighbours(26, 1)", fens.areNeighbours(26, 1), true);
-        Check.due("areNeighbours(1, 1)", fens.areNeighbours(1, 1), false);
-        Check.due("areNeighbours(26, 26)", fens.areNeighbours(26, 26), false);
-        Check.due("areNeighbours(26, 25)", fens.areNeighbours(26, 25), false);
         Check.due("areNeighbours(1, 2)", fens.areNeighbours(1, 2), false);
+        Check.due("areNeighbours(26, 24)", fens.areNeighbours(26, 24), true);
+        Check.due("areNeighbours(26, 25)", fens.areNeighbours(26, 25), false);
+    }
+
+    private static void theFirstOtherLetterAndTheLast() {
+        Check.sentence("Promise 9", "other: 1 to 26");
+        FuzzyFens fens = new FuzzyFens();
+        Check.due("areNeighbours(17, 1)", fens.areNeighbours(17, 1), true);
+        Check.due("areNeighbours(2, 1)", fens.areNeighbours(2, 1), false);
+        Check.due("areNeighbours(1, 26)", fens.areNeighbours(1, 26), true);
+        Check.due("areNeighbours(25, 26)", fens.areNeighbours(25, 26), false);
     }
 
     private static void areNeighboursRefusesOtherLetters() {

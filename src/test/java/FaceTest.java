@@ -42,12 +42,14 @@ public final class FaceTest {
         "int falseCandidates(long, int) " + ARGUMENT,
     };
 
-    /** What the program may not hold, as it stands in its text. */
+    /** What the program may not hold in any form. */
     private static final String[] BARRED = {
-        "import ", "package ", "->", "::", " try ", "catch", "finally", "synchronized", "assert", "static {", "instanceof",
-        "System.", "Thread", "Random", "Exact(", "equals(", "hashCode", "toString", "float", "double", "StackOverflow",
-        "Throwable", "protected", "var ",
+        "package ", "->", "::", "try (", "finally", "synchronized", "assert", "static {", "System.", "Thread", "Random",
+        "Exact(", "hashCode", "Throwable", "Error", "protected", "ArrayIndexOutOfBounds", "NullPointer", "ClassCast",
+        "NegativeArraySize", "ArrayStore",
     };
+
+    private static final Set<String> IMPORTED = Set.of("ArrayList", "Arrays", "Iterator", "List", "NoSuchElementException");
 
     public static void main(String[] args) throws Exception {
         Check.due("NONE", FuzzyFens.NONE, -1);
@@ -98,7 +100,8 @@ public final class FaceTest {
         for (Class<?> one : inside) {
             Check.due(one + " is static", Modifier.isStatic(one.getModifiers()), true);
             Check.due(one + " is not public", Modifier.isPublic(one.getModifiers()), false);
-            Check.due(one + " has at most 20 fields", one.getDeclaredFields().length <= 20, true);
+            long fields = Arrays.stream(one.getDeclaredFields()).filter(field -> !Modifier.isStatic(field.getModifiers())).count();
+            Check.due(one + " has at most 20 fields", fields <= 20, true);
             for (Field field : one.getDeclaredFields()) {
                 checkStatic(field);
             }
@@ -117,14 +120,40 @@ public final class FaceTest {
             Check.due("sign number " + i + " is plain", text.charAt(i) < 128, true);
         }
         String code = text.replaceAll("(?s)/\\*.*?\\*/", "").replaceAll("//[^\n]*", "").replaceAll("\"[^\"\n]*\"", "\"\"");
+        // An arrow behind a case is no lambda, and this one method of System is listed.
+        String rest = code.replaceAll("(case [^:;{}]*|default )->", "").replace("System.arraycopy(", "");
         for (String barred : BARRED) {
-            Check.due("the text holds '" + barred + "'", code.contains(barred), false);
+            Check.due("the text holds '" + barred + "'", rest.contains(barred), false);
         }
-        // A method ends with a brace at its own depth, the blank line behind it or the class's end.
-        int lines = 0;
         for (String line : code.split("\n")) {
-            lines = line.isBlank() ? 0 : lines + 1;
-            Check.due("lines in one piece up to: " + line, lines <= 60, true);
+            if (line.startsWith("import ")) {
+                String name = line.replaceAll("import java\\.util\\.|;.*", "");
+                Check.due("'" + line + "' is listed", IMPORTED.contains(name), true);
+            }
         }
+        methodsAreShort(code);
+    }
+
+    private static void methodsAreShort(String code) {
+        int depth = 0;
+        int start = 0;
+        int startDepth = -1;
+        String[] lines = code.split("\n");
+        for (int i = 0; i < lines.length; i++) {
+            boolean isHead = lines[i].endsWith(") {") || lines[i].matches(".*\\) throws [\\w, ]+\\{");
+            if (startDepth < 0 && isHead) {
+                start = i;
+                startDepth = depth;
+            }
+            depth += braces(lines[i], '{') - braces(lines[i], '}');
+            if (startDepth >= depth) {
+                Check.due("lines of the method " + lines[start].trim(), i - start + 1 <= 60, true);
+                startDepth = -1;
+            }
+        }
+    }
+
+    private static int braces(String line, char brace) {
+        return (int) line.chars().filter(sign -> sign == brace).count();
     }
 }

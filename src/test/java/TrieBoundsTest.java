@@ -27,6 +27,7 @@ public final class TrieBoundsTest {
         trieReachedRefusesBadArguments();
         rowsWithoutWords();
         rowsInTheLargestTrie();
+        manyDifferentRows();
         rowsForTheLeastKAndTheGreatest();
         rowsRefusesBadArguments();
         Check.finish();
@@ -234,6 +235,23 @@ public final class TrieBoundsTest {
         fens.forget(Check.word("yaaaaaaaaa"));
         rows(fens, "yyyyyyyyyy", 1, 2, 3, 4);
         rows(fens, "y", 1, 2, 3, 4);
+    }
+
+    private static void manyDifferentRows() {
+        Check.sentence("Promise 15", "Returns how many different rows the nodes that are reached have.");
+        // Forty words in each of which two letters of the typed word have changed places.
+        List<String> words = new ArrayList<>();
+        for (int first = 0; first < Edges.MOST_LETTERS; first++) {
+            for (int second = first + 1; second < Edges.MOST_LETTERS && words.size() < Edges.MOST_WORDS; second++) {
+                char[] letters = "abcdefghij".toCharArray();
+                letters[first] = (char) ('a' + second);
+                letters[second] = (char) ('a' + first);
+                words.add(new String(letters));
+            }
+        }
+        FuzzyFens fens = Check.knowing(words.toArray(new String[0]));
+        rows(fens, "abcdefghij", 7, 29, 67, 95);
+        reached(fens, "abcdefghij", 7, 170, 321, 321);
     }
 
     private static void rowsForTheLeastKAndTheGreatest() {
