@@ -1,3 +1,8 @@
+import java.io.IOException;
+import java.io.UncheckedIOException;
+import java.nio.file.Files;
+import java.nio.file.Path;
+import java.nio.file.StandardOpenOption;
 import java.util.function.LongSupplier;
 
 /** What the tests share: spelling words, comparing answers, and the end of a test. */
@@ -15,6 +20,8 @@ final class Check {
     private static int wrong = 0;
     private static int compared = 0;
     private static String sentence = "";
+    private static final StringBuilder QUOTED = new StringBuilder();
+    private static final Document DOCUMENT = read();
 
     private Check() {
     }
@@ -24,6 +31,10 @@ final class Check {
         endSentence();
         sentence = where + ", \"" + words + "\": ";
         compared = 0;
+        QUOTED.append(Document.heading(where)).append('\t').append(words).append('\n');
+        if (Document.isHere() && !DOCUMENT.says(where, words)) {
+            tell("is not in the document");
+        }
     }
 
     static long word(String letters) {
@@ -93,6 +104,7 @@ final class Check {
 
     static void finish() {
         endSentence();
+        keepQuoted();
         System.out.println(wrong == 0 ? "all answers are as due" : wrong + " answers are not as due");
         System.exit(wrong == 0 ? 0 : 1);
     }
@@ -116,6 +128,26 @@ final class Check {
     private static void endSentence() {
         if (!sentence.isEmpty() && compared == 0) {
             tell("nothing is tested");
+        }
+    }
+
+    /** EverySentence looks at what all the tests have quoted, if .ci/run names a file for it. */
+    private static void keepQuoted() {
+        String file = System.getProperty("quoted");
+        if (file != null) {
+            try {
+                Files.writeString(Path.of(file), QUOTED, StandardOpenOption.CREATE, StandardOpenOption.APPEND);
+            } catch (IOException e) {
+                throw new UncheckedIOException(e);
+            }
+        }
+    }
+
+    private static Document read() {
+        try {
+            return new Document();
+        } catch (IOException e) {
+            throw new UncheckedIOException(e);
         }
     }
 

@@ -21,6 +21,7 @@ public final class CorrectionsBoundsTest {
         numberWithoutWords();
         numberForTheLeastKAndTheGreatest();
         correctionsRefuseBadArguments();
+        correctionAtEachPlace();
         theFirstPlaceAndTheLast();
         correctionForTheLeastKAndTheGreatest();
         correctionRefusesBadArguments();
@@ -208,6 +209,26 @@ public final class CorrectionsBoundsTest {
                 Check.illegal("corrections(a, " + bad + ")", () -> fens.corrections(1, bad));
             }
         }
+    }
+
+    private static void correctionAtEachPlace() {
+        Check.sentence("Promise 11", "Returns the correction at a place.");
+        // By price, by count, and alphabetically; the prices for "fen" are 0, 1, 1, 2, 2, 2, 3 and 3.
+        FuzzyFens fens = new FuzzyFens();
+        fens.add(Check.word("fan"), 1000);
+        fens.add(Check.word("fenz"), 2);
+        fens.add(Check.word("den"), 2);
+        fens.add(Check.word("fin"), 1000);
+        fens.add(Check.word("fe"), 2);
+        fens.add(Check.word("fen"), 1);
+        fens.add(Check.word("efn"), 3);
+        fens.add(Check.word("zfen"), 30);
+        corrections(fens, "fen", 3, "fen", "efn", "den", "zfen", "fe", "fenz", "fan", "fin");
+        corrections(fens, "fen", 1, "fen", "den", "zfen", "fe", "fenz", "fan", "fin");
+        // A place is looked for anew, whatever place, word or k was asked for ahead of it.
+        Check.due("correction(fen, 3, 7)", () -> fens.correction(Check.word("fen"), 3, 7), Check.word("fin"));
+        Check.due("correction(fan, 0, 0)", () -> fens.correction(Check.word("fan"), 0, 0), Check.word("fan"));
+        Check.due("correction(fen, 1, 1)", () -> fens.correction(Check.word("fen"), 1, 1), Check.word("den"));
     }
 
     private static void theFirstPlaceAndTheLast() {

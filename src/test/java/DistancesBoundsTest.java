@@ -2,6 +2,9 @@ import java.util.List;
 
 /** The boundary cases of the terms on distances and prices, and of promises 7 to 9: distance, price, areNeighbours. */
 public final class DistancesBoundsTest {
+    private static final String DISTANCE = "The distance of two words, or beginnings of words, also empty ones, is the least "
+        + "number of letters that are inserted, deleted or replaced by another one to turn one of them into the other one "
+        + "(Levenshtein).";
     private static final String STEPS = "where the letters of both are gone through from left to right "
         + "and each letter takes part in one step at most";
     private static final String DELETED = "a letter deleted: 1, if it is the same as the letter directly to the left of it "
@@ -39,6 +42,7 @@ public final class DistancesBoundsTest {
         priceOfKnownAndUnknownWords();
         priceFromTheTypedWordToTheKnownOne();
         priceRefusesNoWords();
+        eachPairOfLetters();
         theFirstLetterAndTheLast();
         theFirstOtherLetterAndTheLast();
         areNeighboursRefusesOtherLetters();
@@ -46,8 +50,7 @@ public final class DistancesBoundsTest {
     }
 
     private static void distanceOfWordsOfEachLength() {
-        Check.sentence("Terms, Distance and price", "The distance of two words, or beginnings of words, also empty ones, is "
-            + "the least number of letters that are inserted, deleted or replaced by another one");
+        Check.sentence("Terms, Distance and price", DISTANCE);
         FuzzyFens fens = new FuzzyFens();
         for (int i = 1; i <= Edges.MOST_LETTERS; i++) {
             for (int j = 1; j <= Edges.MOST_LETTERS; j++) {
@@ -58,8 +61,7 @@ public final class DistancesBoundsTest {
     }
 
     private static void distanceOfOneStep() {
-        Check.sentence("Terms, Distance and price", "The distance of two words, or beginnings of words, also empty ones, is "
-            + "the least number of letters that are inserted, deleted or replaced by another one");
+        Check.sentence("Terms, Distance and price", DISTANCE);
         FuzzyFens fens = new FuzzyFens();
         for (String step : new String[] {"bcdefghij", "abcdefghi", "abcdfghij", "zbcdefghij", "abcdefghiz", "abcdzfghij"}) {
             distance(fens, step, "abcdefghij", 1);
@@ -115,8 +117,8 @@ public final class DistancesBoundsTest {
     }
 
     private static void theKeysOfTheThreeRows() {
-        Check.sentence("Terms, Distance and price", "their keys are next to each other in one row, or if one of them is the "
-            + "letter number i (from 0) of a row and the other one is the letter number i or i - 1 of the row below");
+        Check.sentence("Terms, Distance and price", "if their keys are next to each other in one row, or if one of them is "
+            + "the letter number i (from 0) of a row and the other one is the letter number i or i - 1 of the row below");
         for (String letter : NEIGHBOURS) {
             FuzzyFens fens = new FuzzyFens();
             for (char other = 'a'; other <= 'z'; other++) {
@@ -148,8 +150,8 @@ public final class DistancesBoundsTest {
     }
 
     private static void priceOfWordsOfEachLength() {
-        Check.sentence("Terms, Distance and price",
-            "The price of a known word for a typed one is the least sum of prices of steps");
+        Check.sentence("Terms, Distance and price", "The price of a known word for a typed one is the least sum of prices "
+            + "of steps that turn the typed word into the known one");
         FuzzyFens fens = new FuzzyFens();
         for (int i = 1; i <= Edges.MOST_LETTERS; i++) {
             for (int j = 1; j <= Edges.MOST_LETTERS; j++) {
@@ -329,6 +331,18 @@ public final class DistancesBoundsTest {
         FuzzyFens other = Check.knowing("fen");
         for (long number : Edges.noWords()) {
             Check.illegal("price of " + number + " for itself", () -> other.price(number, number));
+        }
+    }
+
+    private static void eachPairOfLetters() {
+        Check.sentence("Promise 9", "Tells whether two letters are neighbours on the keyboard.");
+        for (int one = 1; one <= 26; one++) {
+            FuzzyFens fens = Check.knowing("fen");
+            for (int other = 1; other <= 26; other++) {
+                boolean due = NEIGHBOURS[one - 1].indexOf((char) ('a' + other - 1)) > 0;
+                Check.due("areNeighbours(" + one + ", " + other + ")", fens.areNeighbours(one, other), due);
+                Check.due("areNeighbours(" + other + ", " + one + ")", fens.areNeighbours(other, one), due);
+            }
         }
     }
 

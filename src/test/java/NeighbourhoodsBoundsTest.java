@@ -5,8 +5,8 @@ import java.util.List;
 public final class NeighbourhoodsBoundsTest {
     private static final int MOST_DELETED = 2;
     private static final String TERMS = "Terms, Deletion neighbourhoods";
-    private static final String SEQUENCES = "the set of all sequences of letters, the empty one and the word itself "
-        + "possibly among them, that are left of it if at most k letters are deleted";
+    private static final String SEQUENCES = "The neighbourhood of a word for k is the set of all sequences of letters, the "
+        + "empty one and the word itself possibly among them, that are left of it if at most k letters are deleted.";
     private static final String COMMON =
         "The candidates are the known words whose neighbourhood has a sequence in common with that of the typed word.";
     private static final String WRONG = "Throws IllegalArgumentException if typed is no word, or k is out of range";

@@ -34,6 +34,7 @@ public final class RefusalsTest {
 
     public static void main(String[] args) {
         argumentAheadOfState();
+        eachAsItDocuments();
         argumentAheadOfPlace();
         argumentAheadOfAnEmptyObject();
         nothingChangesInAnEmptyObject();
@@ -57,6 +58,29 @@ public final class RefusalsTest {
         }
         Check.badState("add(sedge, 1) in a full object", () -> full.add(NEVER, 1));
         Check.badState("add(sedge, 1000) in a full object", () -> full.add(NEVER, 1000));
+    }
+
+    private static void eachAsItDocuments() {
+        Check.sentence("Terms, promises 2, 3, 6 and 11", "and IndexOutOfBoundsException or IllegalStateException as it documents");
+        for (Refused refused : notKnown(3)) {
+            FuzzyFens fens = withWords();
+            boolean isPlace = refused.promise == 6 || refused.promise == 11;
+            Check.throwing(refused.call, isPlace ? PLACE : STATE, () -> refused.run.accept(fens));
+        }
+        FuzzyFens full = Edges.full();
+        Check.badState("add(sedge, 1) in a full object", () -> full.add(NEVER, 1));
+        // The others throw neither of them for a word that is not known, nor for one that is forgotten.
+        for (long word : new long[] {NEVER, FORGOTTEN}) {
+            FuzzyFens fens = withWords();
+            Check.due("count", () -> fens.count(word), 0);
+            Check.due("corrections", () -> fens.corrections(word, 0), 0);
+            Check.due("candidates", () -> fens.candidates(word, 0), 0);
+            Check.due("falseCandidates", () -> fens.falseCandidates(word, 0), 0);
+            Check.due("distance", () -> fens.distance(word, word), 0);
+            Check.due("price", () -> fens.price(word, word), 0);
+            Check.due("neighbourhood", () -> fens.neighbourhood(word, 0), 1);
+            Check.due("treeParent", () -> fens.treeParent(word), word == NEVER ? FuzzyFens.NONE : Check.word("marsh"));
+        }
     }
 
     private static void argumentAheadOfPlace() {

@@ -11,9 +11,11 @@ public final class TreeBoundsTest {
         theRoot();
         nodesInTheOrderOfTheFirstAdding();
         childrenOfEachNumber();
+        fromTheRootOn();
         aChildThatIsThere();
         nodesOfForgottenWordsStay();
         childrenOfForgottenWords();
+        aSearchBeginsAtTheRoot();
         numbersFromDMinusKToDPlusK();
         numbersBelowTheRoot();
         nodesFromNoneToForty();
@@ -73,6 +75,24 @@ public final class TreeBoundsTest {
         Check.due("treeNodes()", fens.treeNodes(), 11);
     }
 
+    private static void fromTheRootOn() {
+        Check.sentence(TERMS, "Each other one is put into the tree so: from the root on, with the distance d of the word from "
+            + "the word of the node");
+        // The root has a child 3, a child 1 and a child 2 then: fens does not go below fen, which is nearer to it.
+        FuzzyFens fens = Check.knowing("fan", "zzz", "fen", "fens");
+        node(fens, "zzz", 1, "fan");
+        node(fens, "fen", 1, "fan");
+        node(fens, "fens", 1, "fan");
+        // At the distance 2 from fan, so below its child 2, though that is at the distance 4, and fen at 3.
+        fens.add(Check.word("a"), 1);
+        node(fens, "a", 2, "fens");
+        fens.add(Check.word("zz"), 1);
+        node(fens, "zz", 2, "zzz");
+        // The distance is taken anew at each node: 2 from fan, 4 from fens, 1 from a.
+        fens.add(Check.word("ax"), 1);
+        node(fens, "ax", 3, "a");
+    }
+
     private static void aChildThatIsThere() {
         Check.sentence(TERMS, "one goes on to the child with the number d, as long as there is one");
         FuzzyFens fens = broadest();
@@ -111,6 +131,19 @@ public final class TreeBoundsTest {
         fens.forget(Check.word("fan"));
         fens.add(Check.word("fin"), 1);
         node(fens, "fin", 2, "fan");
+    }
+
+    private static void aSearchBeginsAtTheRoot() {
+        Check.sentence(TERMS, "A search compares the typed word with the root");
+        // The root is out of reach of the search, also as a forgotten word, and it is compared all the same.
+        FuzzyFens fens = Check.knowing("mmmmmmmmmm", "mmmmmmmmm");
+        for (int k = 0; k <= WIDEST; k++) {
+            compared(fens, "zzzzzzzzzz", k, 1);
+        }
+        compared(fens, "mmmmmmmmm", 0, 2);
+        fens.forget(Check.word("mmmmmmmmmm"));
+        compared(fens, "zzzzzzzzzz", 0, 1);
+        compared(fens, "mmmmmmmmm", 0, 2);
     }
 
     private static void numbersFromDMinusKToDPlusK() {

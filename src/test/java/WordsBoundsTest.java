@@ -16,6 +16,7 @@ public final class WordsBoundsTest {
         theConstant();
         aNewObject();
         aNewObjectBesideAFullOne();
+        addAddsToOneWordAlone();
         addTakesOccurrencesInRange();
         addRefusesOccurrencesOutOfRange();
         addReturnsTheCount();
@@ -33,6 +34,7 @@ public final class WordsBoundsTest {
         countOfKnownWords();
         countOfUnknownWords();
         countRefusesNoWords();
+        wordAtEachPlace();
         wordAtTheFirstPlaceAndTheLast();
         wordAtNoPlaceOfAnEmptyObject();
         wordAtNoPlaceAfterTheLast();
@@ -123,7 +125,7 @@ public final class WordsBoundsTest {
     }
 
     private static void theConstant() {
-        Check.sentence("Terms", "NONE = -1: There is no such word.");
+        Check.sentence("Terms, Corrections", "The constants: NONE = -1: There is no such word.");
         Check.due("NONE", FuzzyFens.NONE, -1);
     }
 
@@ -158,6 +160,22 @@ public final class WordsBoundsTest {
             Check.due("falseCandidates(" + edge + ", 2)", fens.falseCandidates(word, 2), 0);
             Check.due("treeDepth(" + edge + ")", fens.treeDepth(word), FuzzyFens.NONE);
         }
+    }
+
+    private static void addAddsToOneWordAlone() {
+        Check.sentence("Promise 2", "Adds occurrences of a word.");
+        FuzzyFens fens = new FuzzyFens();
+        List<String> words = Edges.forty();
+        for (int i = 0; i < Edges.MOST_WORDS; i++) {
+            fens.add(Check.word(words.get(i)), 1 + i);
+        }
+        fens.add(Check.word(words.get(7)), 100);
+        fens.add(Check.word(words.get(39)), 1000);
+        for (int i = 0; i < Edges.MOST_WORDS; i++) {
+            int due = 1 + i + (i == 7 ? 100 : 0) + (i == 39 ? 1000 : 0);
+            Check.due("count(" + words.get(i) + ")", fens.count(Check.word(words.get(i))), due);
+        }
+        Check.due("words()", fens.words(), Edges.MOST_WORDS);
     }
 
     private static void addTakesOccurrencesInRange() {
@@ -390,6 +408,32 @@ public final class WordsBoundsTest {
         for (long number : Edges.noWords()) {
             Check.illegal("count(" + number + ")", () -> full.count(number));
         }
+    }
+
+    private static void wordAtEachPlace() {
+        Check.sentence("Promise 6", "Returns the known word at a place in alphabetical order.");
+        // Neither the counts nor the order of adding matter, and forgotten words have no place.
+        List<String> words = Edges.forty();
+        Collections.reverse(words);
+        FuzzyFens fens = new FuzzyFens();
+        for (String word : words) {
+            fens.add(Check.word(word), 1 + fens.words() * 7 % 40);
+        }
+        for (int i = 0; i < Edges.MOST_WORDS; i += 3) {
+            fens.forget(Check.word(words.get(i)));
+        }
+        List<String> sorted = new ArrayList<>();
+        for (int i = 0; i < Edges.MOST_WORDS; i++) {
+            if (i % 3 != 0) {
+                sorted.add(words.get(i));
+            }
+        }
+        Collections.sort(sorted);
+        for (int place = 0; place < sorted.size(); place++) {
+            int at = place;
+            Check.due("wordAt(" + place + ")", () -> fens.wordAt(at), Check.word(sorted.get(place)));
+        }
+        Check.noPlace("wordAt(" + sorted.size() + ")", () -> fens.wordAt(sorted.size()));
     }
 
     private static void wordAtTheFirstPlaceAndTheLast() {
